@@ -1188,7 +1188,7 @@ public final class CarriedRows {
         private final Poly base = new Poly();
         private final Poly product = new Poly();
         private final Poly quotient = new Poly();
-        private final Poly common = new Poly();
+        private final Poly powerLessZ = new Poly();
         private final Poly shared = new Poly();
         private final Poly other = new Poly();
         private int p = 2;
@@ -1205,9 +1205,9 @@ public final class CarriedRows {
             power.becomeZ();
             for (int d = 1; d <= row.order && left.degree > 0; d++) {
                 raisePower();
-                common.become(power);
-                common.lessZ(p);
-                shareWithLeft(common);
+                powerLessZ.become(power);
+                powerLessZ.lessZ(p);
+                share();
                 if (shared.degree > 0) {
                     unlike += shared.degree / d;
                     greatestDegree = d;
@@ -1216,21 +1216,19 @@ public final class CarriedRows {
             }
         }
 
-        /** Takes the parts of degree d, each of which stands once in shared, out of what is left. */
+        /** Takes the parts of degree d, of which shared holds each once, out of what is left. */
         private void takeOut(int d, int order) {
-            common.become(shared);
             for (int step = 0; step < order && shared.degree > 0; step++) {
                 all += shared.degree / d;
                 other.become(left);
                 other.divideBy(shared, p, quotient);
                 left.become(quotient);
-                shareWithLeft(common);
+                share();
             }
         }
 
         /** The power becomes its p-th power by what is left. */
         private void raisePower() {
-            power.divideBy(left, p, quotient);
             base.become(power);
             power.becomeOne();
             for (int bit = 6; bit >= 0; bit--) {
@@ -1247,10 +1245,10 @@ public final class CarriedRows {
             power.become(product);
         }
 
-        /** The greatest common part of a polynomial and what is left becomes shared. */
-        private void shareWithLeft(Poly poly) {
+        /** The greatest common part of what is left and the power less z becomes shared. */
+        private void share() {
             shared.become(left);
-            other.become(poly);
+            other.become(powerLessZ);
             for (int step = 0; step <= 2 * MOST_ORDER && other.degree >= 0; step++) {
                 shared.divideBy(other, p, quotient);
                 product.become(shared);

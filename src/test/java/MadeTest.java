@@ -131,6 +131,12 @@ public final class MadeTest {
         isMade(2, "31622,24558:0,1", "1:1", 0, "31622,24558:0,1");
         isFull(2, "31622,24559:0,1", "1:1", 0);
         isMade(2, "-1:1", "31622,24558:0,1", 0, "-31622,24558:0,-1");
+        isMade(2, "1:1", "31623,-7065:0,1", 0, "31623,-7065:0,1");
+        isFull(2, "1:1", "31623,-7064:0,1", 0);
+        // The sum of third powers is less than 0.
+        isMade(2, "1:1", "-999,1,1:0,0,1", 0, "-999,1,1:0,0,1");
+        isFull(2, "1:1", "-1001,1,1:0,0,1", 0);
+        isFull(2, "-10:1", "200,1,1:0,0,1", 0);
         // Of both alone the sums are not above, but of what is made.
         isMade(2, "10:1", "3162,1:0,1", 0, "31620,100:0,10");
         isFull(2, "10:1", "4000,1:0,1", 0);
@@ -254,6 +260,8 @@ public final class MadeTest {
         isSame(FIBONACCI, "2,0,-1:0,1,2", 0);
         isSame("2:1", "3,-2:1,2", 1);
         isSame("2:1", "3,-2:1,3", 0);
+        isSame("2:3", "3:2", 0);
+        isSame("2:3", "3:3", 0);
         isSame("5:0", "7,7,7,7,7,7:0,0,0,0,0,0", 1);
         CarriedRows rows = new CarriedRows();
         Checks.due("promise 20: x 6", rows.same(6, 0), CarriedRows.BAD);

@@ -185,6 +185,12 @@ public final class RowsTest {
         Checks.row(rows, 0, "-10:1");
         Checks.due("promise 7: less 10 to the 17", rows.exact(0, 17), -100000000000000000L);
         Checks.due("promise 7: 10 to the 18", rows.exact(0, 18), EXACT_SPENT);
+        Checks.row(rows, 0, "11,-10:0,9");
+        Checks.due("promise 7: 10 to the 17 less 1", rows.exact(0, 17), 99999999999999999L);
+        Checks.row(rows, 0, "11,-10:2,11");
+        Checks.due("promise 7: 10 to the 17 and 1", rows.exact(0, 17), EXACT_SPENT);
+        Checks.row(rows, 0, "11,-10:-2,-11");
+        Checks.due("promise 7: the same less than 0", rows.exact(0, 17), EXACT_SPENT);
         Checks.row(rows, 0, "-1:7");
         Checks.due("promise 7: place 2000", rows.exact(0, 2000), 7);
         Checks.due("promise 7: place 1999", rows.exact(0, 1999), -7);
@@ -203,6 +209,8 @@ public final class RowsTest {
         Checks.due("promise 7: 2 to the 48", rows.exact(0, 3), 1L << 48);
         Checks.due("promise 7: 2 to the 64, that is 0 in 64 bits", rows.exact(0, 4), EXACT_SPENT);
         Checks.due("promise 7: behind it", rows.exact(0, 5), EXACT_SPENT);
+        Checks.row(rows, 0, "65536:-1");
+        Checks.due("promise 7: less 2 to the 64", rows.exact(0, 4), EXACT_SPENT);
         // The polynomial is (z less 10000)(z less 10): the multiples are 10 to the 20 and less 10 to the 20.
         Checks.row(rows, 0, "10010,-100000:1,10");
         Checks.due("promise 7: great multiples that meet", rows.exact(0, 17), 100000000000000000L);
