@@ -1,17 +1,111 @@
-/** What the tests share: counting wrong answers, putting texts. */
+import java.util.function.Supplier;
+import java.util.function.ToLongFunction;
+
+/** What the tests share: counting wrong answers, putting texts, telling all that an object holds. */
 final class Checks {
+    private static final int[] BYTES_ASKED = {'1', ':', ',', '-', '0'};
     private static int wrong = 0;
     private static int asked = 0;
+    private static int sentences = 0;
+    private static String sentence = "";
 
     private Checks() {
+    }
+
+    /** The answers that come next are due by this sentence of the document. */
+    static void sentence(String words) {
+        sentences++;
+        sentence = "\"" + words + "\": ";
+        String document = System.getProperty("document");
+        if (document != null && !document.contains(words)) {
+            wrong++;
+            System.out.println("not in the document: " + words);
+        }
     }
 
     static void due(String call, long got, long want) {
         asked++;
         if (got != want) {
             wrong++;
-            System.out.println(call + " answered " + got + ", due is " + want);
+            System.out.println(sentence + call + " answered " + got + ", due is " + want);
         }
+    }
+
+    static void dueTo(String call, String got, String want) {
+        asked++;
+        if (!got.equals(want)) {
+            wrong++;
+            System.out.println(sentence + call + " answered\n    " + got + "\ndue is\n    " + want);
+        }
+    }
+
+    /** The call answers that, and the object is then as one to which it was not put. */
+    static void refused(String call, Supplier<CarriedRows> made, ToLongFunction<CarriedRows> put, long want) {
+        CarriedRows rows = made.get();
+        due(call, put.applyAsLong(rows), want);
+        dueTo(call + ", and behind it all", whole(rows), whole(made.get()));
+    }
+
+    /** All that an object holds; the object is another one behind that. */
+    static String whole(CarriedRows rows) {
+        StringBuilder whole = new StringBuilder("rows");
+        for (int r = 0; r < 6; r++) {
+            whole.append(' ').append(row(rows, r));
+        }
+        whole.append("; counts");
+        for (int what = 0; what < 3; what++) {
+            whole.append(' ').append(rows.count(what));
+        }
+        whole.append("; law");
+        for (int i = 0; i <= rows.least(0); i++) {
+            whole.append(' ').append(rows.least(i));
+        }
+        whole.append("; next ").append(rows.next());
+        tellPrime(rows, whole);
+        tellText(rows, whole);
+        return whole.toString();
+    }
+
+    /** The prime shows itself in the greatest number that is not BAD. */
+    private static void tellPrime(CarriedRows rows, StringBuilder whole) {
+        int v = 97;
+        while (v > 0 && rows.add(v) == CarriedRows.BAD) {
+            v--;
+        }
+        whole.append("; prime ").append(v + 1).append(", then numbers ").append(rows.count(1));
+    }
+
+    /** The text shows itself in its fault, in the row that it tells and in what can stand behind it. */
+    private static void tellText(CarriedRows rows, StringBuilder whole) {
+        whole.append("; fault ").append(rows.fault()).append("; take ").append(rows.take(3));
+        whole.append(' ').append(row(rows, 3)).append("; faults behind");
+        for (int sign : BYTES_ASKED) {
+            rows.write(1, sign);
+            whole.append(' ').append(rows.count(0)).append(' ').append(rows.fault());
+        }
+        whole.append("; wiped ").append(rows.wipe());
+    }
+
+    /** The text that tells register r. */
+    static String row(CarriedRows rows, int r) {
+        int order = rows.told(r, 0, 0);
+        StringBuilder row = new StringBuilder();
+        for (int i = 1; i <= order; i++) {
+            row.append(i > 1 ? "," : "").append(rows.told(r, 1, i));
+        }
+        for (int i = 0; i < order; i++) {
+            row.append(i > 0 ? ',' : ':').append(rows.told(r, 2, i));
+        }
+        return row.toString();
+    }
+
+    /** An object whose registers 0 and on are those rows. */
+    static CarriedRows with(String... texts) {
+        CarriedRows rows = new CarriedRows();
+        for (int r = 0; r < texts.length; r++) {
+            row(rows, r, texts[r]);
+        }
+        return rows;
     }
 
     /** The object's TEXT becomes that one, written eight bytes at a time. */
@@ -54,7 +148,8 @@ final class Checks {
     }
 
     static void finish(String name) {
-        System.out.println(name + ": " + asked + " answers, " + wrong + " wrong");
+        System.out.println(name + ": " + asked + " answers, " + wrong + " wrong"
+                + (sentences > 0 ? "; " + sentences + " sentences" : ""));
         if (wrong != 0) {
             System.exit(1);
         }
