@@ -411,6 +411,9 @@ public final class EdgesOfMadeTest {
         isSame("2:1", "1,1:1,2", 0);
         isSame("0,0,0,0,0,1:1,0,0,0,0,0", "0,0,0,0,1,1:1,0,0,0,0,0", 0);
         isSame("0,0,0,0,0,1:1,0,0,0,0,0", "0,0,0,0,0,1:1,0,0,0,0,0", 1);
+        // They part at the first alone, and are alike at all others that are looked at.
+        isSame("2:3", "3:2", 0);
+        isSame("0,0,0,0,0,1:0,0,0,0,0,1", "-1,0,0,0,0,1:1,0,0,0,0,1", 0);
     }
 
     private static void sameSpent() {

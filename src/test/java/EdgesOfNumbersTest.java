@@ -43,7 +43,14 @@ public final class EdgesOfNumbersTest {
     }
 
     private static void isLaw(int[] law, int p, int... numbers) {
-        CarriedRows rows = numbers(p, numbers);
+        isLaw(new CarriedRows(), law, p, numbers);
+    }
+
+    private static void isLaw(CarriedRows rows, int[] law, int p, int... numbers) {
+        rows.prime(p);
+        for (int v : numbers) {
+            rows.add(v);
+        }
         String call = told(p, numbers);
         Checks.due("L " + call, rows.least(0), law.length);
         for (int i = 1; i <= law.length; i++) {
@@ -171,6 +178,12 @@ public final class EdgesOfNumbersTest {
         isLaw(law(0, 0), 2, 0, 1);
         isLaw(law(0, 0), 2, 0, 1, 0);
         isLaw(law(1, 0), 2, 0, 1, 1);
+        // Behind another law no number of that is left.
+        CarriedRows rows = new CarriedRows();
+        isLaw(rows, law(3, 94, 1), 97, 0, 1, 4, 9, 16, 25, 36);
+        isLaw(rows, law(0, 0, 0), 97, 0, 0, 5);
+        isLaw(rows, law(), 97);
+        isLaw(rows, law(0), 97, 5);
     }
 
     /** All numbers by small primes, up to a few places. */
@@ -184,8 +197,10 @@ public final class EdgesOfNumbersTest {
         tryAll(5, 4);
     }
 
+    /** Some rows of numbers are put to one object, so that what it told ahead must not count. */
     private static void tryAll(int p, int most) {
         int all = 1;
+        CarriedRows rows = new CarriedRows();
         for (int size = 1; size <= most; size++) {
             all *= p;
             for (int code = 0; code < all; code++) {
@@ -193,9 +208,10 @@ public final class EdgesOfNumbersTest {
                 for (int i = 0, left = code; i < size; i++, left /= p) {
                     numbers[i] = left % p;
                 }
+                rows = code % 20 == 0 ? new CarriedRows() : rows;
                 int[] law = leastByTrying(numbers, p);
-                isLaw(law, p, numbers);
-                Checks.due("next " + told(p, numbers), numbers(p, numbers).next(), carried(law, numbers, size, p));
+                isLaw(rows, law, p, numbers);
+                Checks.due("next " + told(p, numbers), rows.next(), carried(law, numbers, size, p));
             }
         }
     }

@@ -391,5 +391,10 @@ public final class EdgesOfRoundsTest {
             }
         }
         Checks.due("BAD before NONE", rows.longest(1, 4, 4), BAD);
+        // A lesser ROUND behind a greater one.
+        Checks.due("round of order 3 by 7", rows.longest(3, 7, 1), 342);
+        Checks.due("laws of order 1 by 2", rows.longest(1, 2, 0), 1);
+        Checks.due("round of order 1 by 2", rows.longest(1, 2, 1), 1);
+        Checks.due("c1 of order 1 by 2", rows.longest(1, 2, 2), 1);
     }
 }

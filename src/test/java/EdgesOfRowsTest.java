@@ -523,6 +523,13 @@ public final class EdgesOfRowsTest {
         }
         Checks.due("a full one", rows.wipe(), 100);
         Checks.due("there is room again", rows.write(8, 0), 8);
+        // Nothing of the text that was stands behind the end.
+        String text = "12,-3:45,-6";
+        for (int length = 0; length < text.length(); length++) {
+            CarriedRows again = textOf(text);
+            Checks.put(again, text.substring(0, length));
+            Checks.due("fault of " + text.substring(0, length) + " behind the whole one", again.fault(), length);
+        }
     }
 
     private static void fault() {
